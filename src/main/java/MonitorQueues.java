@@ -205,11 +205,7 @@ public final class MonitorQueues {
         for (int i = 0; i < queues.length; i++) {
             Queue q = queues[i];
             if (q.isLocked() && q.holder == unit) {
-                ended += q.pending;
-                if (!commits) {
-                    q.dropPending();
-                }
-                q.unlock();
+                ended += q.endPending(commits);
             }
         }
         lookAtTriggers();
@@ -320,13 +316,8 @@ public final class MonitorQueues {
 
     private int postDue() {
         int posted = 0;
-        for (int left = waiting.size(); left > 0; left--) {
-            Delay first = waiting.get(0);
-            if (first.until > now) {
-                break;
-            }
-            waiting.remove(0);
-            begin(first.code);
+        while (posted < MOST_WAITING && !waiting.isEmpty() && waiting.get(0).until <= now) {
+            begin(waiting.remove(0).code);
             posted++;
         }
         return posted;
@@ -373,7 +364,6 @@ public final class MonitorQueues {
             this.needed = needed;
             this.code = code;
             this.ready = true;
-            this.task = NO_TASK;
         }
     }
 
@@ -383,6 +373,7 @@ public final class MonitorQueues {
         int kind;
         // While a unit holds the queue nobody else may put, so its items are the last ones.
         int pending;
+        // The unit that they belong to; it says nothing while there are none.
         int holder;
         long lastUse;
         // The number of the latest transient item; it outlives the kind.
@@ -395,7 +386,6 @@ public final class MonitorQueues {
             this.items = new ArrayList<Item>();
             this.places = new int[READERS];
             this.kind = NONE;
-            this.holder = NO_UNIT;
         }
 
         static boolean isTransientKind(int kind) {
@@ -467,11 +457,20 @@ public final class MonitorQueues {
             return takenNumber;
         }
 
-        void dropPending() {
-            if (isTransient()) {
-                lastNumber -= pending;
+        int endPending(boolean stand) {
+            int ended = pending;
+            pending = 0;
+            if (!stand) {
+                dropLast(ended);
             }
-            for (int left = pending; left > 0 && !items.isEmpty(); left--) {
+            return ended;
+        }
+
+        void dropLast(int some) {
+            if (isTransient()) {
+                lastNumber -= some;
+            }
+            for (int left = some; left > 0 && !items.isEmpty(); left--) {
                 items.remove(items.size() - 1);
             }
             if (items.isEmpty()) {
@@ -479,16 +478,10 @@ public final class MonitorQueues {
             }
         }
 
-        void unlock() {
-            pending = 0;
-            holder = NO_UNIT;
-        }
-
         void becomeEmpty() {
             items.clear();
             Arrays.fill(places, 0);
             kind = NONE;
-            unlock();
         }
     }
 }
