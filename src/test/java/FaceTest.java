@@ -35,6 +35,7 @@ public final class FaceTest {
 
     public static void main(String[] args) {
         Due due = new Due();
+        due.sentence("The public face", "public final class MonitorQueues {");
         Set<String> open = new TreeSet<>();
         Set<String> names = new TreeSet<>();
         for (Method m : MonitorQueues.class.getDeclaredMethods()) {

@@ -56,6 +56,7 @@ public final class StormTest {
     }
 
     public static void main(String[] args) {
+        due.sentence("The public face", "throws NoSuchElementException");
         for (long seed = 0; seed < 2000; seed++) {
             StormTest storm = new StormTest(seed);
             // The counts at the end are calls too.

@@ -17,21 +17,22 @@ public final class UnitTest {
         return x;
     }
 
-    private static void commits() {
+    private static void theyStand() {
+        due.sentence("Promise 13", "A unit ends: its pending items stand, or go: how many they were");
         MonitorQueues x = filled();
         due.is("they stand", x.unit(9, true), 5);
         due.is("all are there", x.count(64), 10);
-        due.is("again", x.unit(9, true), 0);
-        due.is("they don't go any more", x.unit(9, false), 0);
+        due.is("they are pending no more", x.unit(9, false), 0);
         due.is("all are there still", x.count(64), 10);
-        due.item("value", x, 0, 3, 3L);
-        due.is("take", x.take(31), 1);
-        due.is("open", x.put(0, 1, 1L, 0), 4);
-        due.is("another unit's stay pending", x.put(4, 1, 1L, 0), -5);
-        due.is("another unit's", x.unit(1, false), 1);
+        due.item("a value", x, 0, 3, 3L);
+        due.is("they can be taken", x.take(31), 1);
+        due.is("the queue is open", x.put(0, 1, 1L, 0), 4);
+        due.is("another unit's are pending still", x.put(4, 1, 1L, 0), -5);
+        due.is("that unit ends", x.unit(1, false), 1);
     }
 
-    private static void goes() {
+    private static void theyGo() {
+        due.sentence("Promise 13", "A unit ends: its pending items stand, or go: how many they were");
         MonitorQueues x = filled();
         due.is("they go", x.unit(9, false), 5);
         int[] left = {1, 0, 1, 0, 1, 1, 1};
@@ -44,41 +45,69 @@ public final class UnitTest {
         due.is("kind of 31", x.count(63), -1);
         due.is("all items", x.count(64), 5);
         due.item("the one that stood", x, 0, 1, 1L);
-        due.is("a temporary one's number", x.put(0, 1, 1L, 0), 2);
-        due.is("a transient one's number", x.put(2, 3, 1L, 0), 2);
-        due.is("any kind for one that became empty", x.put(31, 0, 1L, 0), 1);
+        due.is("the queue is open", x.put(0, 1, 1L, 0), 2);
+        due.is("one that became empty has any kind", x.put(31, 0, 1L, 0), 1);
         due.is("again", x.unit(9, false), 0);
-        due.is("a unit can go on", x.put(1, 3, 1L, 9), 1);
-        due.is("and end again", x.unit(9, true), 1);
     }
 
-    private static void firstOnesTaken() {
+    private static void nothingPending() {
+        due.sentence("Promise 13", "A unit ends: its pending items stand, or go: how many they were");
+        MonitorQueues x = new MonitorQueues(100);
+        x.put(0, 1, 1L, 0);
+        x.put(1, 0, 1L, 3);
+        x.put(2, 2, 1L, 3);
+        for (int unit = 1; unit <= 9; unit++) {
+            due.is("nothing of " + unit + " goes", x.unit(unit, false), 0);
+            due.is("nothing of " + unit + " stands", x.unit(unit, true), 0);
+        }
+        due.is("all are there", x.count(64), 3);
+    }
+
+    private static void aUnitGoesOn() {
+        due.sentence("Promise 13", "A unit ends: its pending items stand, or go: how many they were");
+        MonitorQueues x = new MonitorQueues(100);
+        x.put(0, 1, 1L, 1);
+        due.is("it ends", x.unit(1, true), 1);
+        due.is("it can put again", x.put(0, 1, 2L, 1), 2);
+        due.is("only the later one is pending", x.unit(1, false), 1);
+        due.is("the earlier one stands", x.count(0), 1);
+    }
+
+    private static void beforeThemAllWasTaken() {
+        due.sentence("Promise 13", "A unit ends: its pending items stand, or go: how many they were");
         MonitorQueues x = new MonitorQueues(100);
         x.put(2, 3, 1L, 0);
         x.put(2, 3, 2L, 4);
         x.put(2, 3, 3L, 4);
         x.take(2);
         due.is("both go", x.unit(4, false), 2);
-        due.is("empty", x.count(34), -1);
-        due.item("the taken one", x, 2, 1, 1L);
+        due.is("the queue is empty", x.count(34), -1);
         due.is("on from the taken one", x.put(2, 2, 4L, 0), 2);
     }
 
-    public static void main(String[] args) {
-        commits();
-        goes();
-        firstOnesTaken();
+    private static void noSuchUnit() {
+        due.sentence("Promise 13", "-2 when it is not 1 .. 9");
         MonitorQueues x = new MonitorQueues(100);
-        int[] units = {0, 10, -1, Integer.MIN_VALUE, Integer.MAX_VALUE};
         x.put(0, 1, 1L, 0);
-        for (int unit : units) {
+        x.put(1, 1, 1L, 1);
+        x.put(2, 3, 1L, 9);
+        int[] before = Due.counts(x);
+        for (int unit : Due.outside(1, 9)) {
             due.is("unit(" + unit + ", true)", x.unit(unit, true), -2);
             due.is("unit(" + unit + ", false)", x.unit(unit, false), -2);
         }
-        for (int unit = 1; unit <= 9; unit++) {
-            due.is("nothing pending", x.unit(unit, false), 0);
-        }
-        due.is("the item of no unit", x.count(0), 1);
+        due.unchanged("wrong units", x, before);
+        due.is("unit 1", x.unit(1, false), 1);
+        due.is("unit 9", x.unit(9, false), 1);
+    }
+
+    public static void main(String[] args) {
+        theyStand();
+        theyGo();
+        nothingPending();
+        aUnitGoesOn();
+        beforeThemAllWasTaken();
+        noSuchUnit();
         due.finish();
     }
 }
