@@ -18,6 +18,14 @@ final class Due {
     private int seen = 0;
     private int wrong = 0;
 
+    Due() {
+        // The machine's own exceptions end a test too; then it is due to say which sentence it was at.
+        Thread.setDefaultUncaughtExceptionHandler((thread, thrown) -> {
+            complain("threw " + thrown);
+            thrown.printStackTrace();
+        });
+    }
+
     private static String document() {
         try {
             return Files.exists(DOCUMENT) ? Files.readString(DOCUMENT, StandardCharsets.UTF_8) : null;
@@ -106,6 +114,10 @@ final class Due {
     /** The numbers next to a range, and the farthest ones. */
     static int[] outside(int low, int high) {
         return new int[] {low - 1, high + 1, Integer.MIN_VALUE, Integer.MAX_VALUE};
+    }
+
+    boolean allRight() {
+        return wrong == 0;
     }
 
     void finish() {

@@ -163,12 +163,12 @@ public final class QueueTermsTest {
         for (int unit = 0; unit <= 9; unit++) {
             due.is("put of unit " + unit, x.put(unit, 1, 1L, unit), 1);
         }
-        due.is("unit 0 has nothing pending", x.put(0, 1, 1L, 0), 2);
+        due.is("what none put is not pending: put of unit 9", x.put(0, 1, 1L, 9), 2);
         due.is("unit 0 can't end", x.unit(0, false), -2);
         for (int unit = 1; unit <= 9; unit++) {
-            due.is("unit " + unit + " ends", x.unit(unit, false), 1);
+            due.is("unit " + unit + " ends", x.unit(unit, false), unit == 9 ? 2 : 1);
         }
-        due.is("those of none are there", x.count(64), 2);
+        due.is("that of none is there", x.count(64), 1);
     }
 
     private static void pendingAndLocked() {

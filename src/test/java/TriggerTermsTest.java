@@ -29,12 +29,20 @@ public final class TriggerTermsTest {
         due.is("the code of the later one", x.started(1), 60);
     }
 
+    private static void readyAtFirst() {
+        due.sentence("Terms", READY);
+        MonitorQueues x = new MonitorQueues(100);
+        put(x, 4, 2);
+        x.trigger(4, 2, 55);
+        due.is("it never saw fewer than the count", x.started(1), 55);
+    }
+
     private static void readyByFewer() {
         due.sentence("Terms", READY);
         MonitorQueues x = new MonitorQueues(100);
         x.trigger(4, 3, 55);
         put(x, 4, 4);
-        due.is("ready at first", x.count(65), 1);
+        due.is("a task began", x.count(65), 1);
         x.take(4);
         x.end(1);
         due.is("as many as the count are not fewer", x.count(65), 1);
@@ -85,6 +93,18 @@ public final class TriggerTermsTest {
         x.unit(8, true);
         due.is("more than the count at once: one task", x.count(65), 1);
         due.is("it goes", x.count(66), 1);
+    }
+
+    private static void notReadyByBeginning() {
+        due.sentence("Terms", BEGINS);
+        MonitorQueues x = new MonitorQueues(100);
+        x.trigger(4, 2, 55);
+        put(x, 4, 3);
+        x.take(4);
+        due.is("taken, so none begins again", x.end(1), 0);
+        due.is("none goes, and the count is there, but it is not ready", x.count(65), 1);
+        put(x, 4, 1);
+        due.is("nor by one more", x.count(65), 1);
     }
 
     private static void waitsForItsTask() {
@@ -291,10 +311,12 @@ public final class TriggerTermsTest {
 
     public static void main(String[] args) {
         oneForAQueue();
+        readyAtFirst();
         readyByFewer();
         readyByFewerThatStand();
         beginsAtTheCount();
         beginsBeyondTheCount();
+        notReadyByBeginning();
         waitsForItsTask();
         queueByQueue();
         behindEachCall();
