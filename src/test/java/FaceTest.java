@@ -64,7 +64,8 @@ public final class FaceTest {
         due.is("constructors", made.length, 1);
         due.is("the constructor is public", Modifier.isPublic(made[0].getModifiers()) ? 1 : 0, 1);
         due.is("the class is public and final",
-                MonitorQueues.class.getModifiers() & (Modifier.PUBLIC | Modifier.FINAL), Modifier.PUBLIC | Modifier.FINAL);
+                MonitorQueues.class.getModifiers() & (Modifier.PUBLIC | Modifier.FINAL),
+                Modifier.PUBLIC | Modifier.FINAL);
         due.is("NONE", MonitorQueues.NONE, -1);
         due.finish();
     }
