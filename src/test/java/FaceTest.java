@@ -3,6 +3,7 @@ import java.lang.reflect.Field;
 import java.lang.reflect.Method;
 import java.lang.reflect.Modifier;
 import java.util.Arrays;
+import java.util.NoSuchElementException;
 import java.util.Set;
 import java.util.TreeSet;
 
@@ -31,6 +32,18 @@ public final class FaceTest {
             s.append(i == 0 ? "" : ",").append(m.getParameterTypes()[i].getName());
         }
         return s.append(')').toString();
+    }
+
+    private static void tellsWhatItThrows(Due due) {
+        due.sentence("The public face", "public long get(int queue, int item) throws NoSuchElementException;");
+        for (Method m : MonitorQueues.class.getMethods()) {
+            if (m.getDeclaringClass() == MonitorQueues.class) {
+                Class<?>[] told = m.getExceptionTypes();
+                due.is(m.getName() + " tells exceptions", told.length, m.getName().equals("get") ? 1 : 0);
+                due.isTrue(m.getName() + " tells no other", told.length == 0
+                        || told[0] == NoSuchElementException.class);
+            }
+        }
     }
 
     public static void main(String[] args) {
@@ -67,6 +80,7 @@ public final class FaceTest {
                 MonitorQueues.class.getModifiers() & (Modifier.PUBLIC | Modifier.FINAL),
                 Modifier.PUBLIC | Modifier.FINAL);
         due.is("NONE", MonitorQueues.NONE, -1);
+        tellsWhatItThrows(due);
         due.finish();
     }
 }
